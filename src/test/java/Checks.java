@@ -4,7 +4,7 @@ import java.util.function.Supplier;
 /** What the tests share. A test's main ends with finish(), which exits with 1 if an answer was wrong. */
 final class Checks {
     /** An object answers 512 calls: longer looks are shared out among objects made alike. */
-    private static final int LOOKS = 256;
+    private static final int LOOKS = 480;
     private static final int MOST_PRINTED = 50;
 
     static final BigInteger TOP = BigInteger.ONE.shiftLeft(65536).subtract(BigInteger.ONE);
@@ -58,7 +58,7 @@ final class Checks {
         return typeAll(new DigitMill(), text);
     }
 
-    /** A new object whose NUMBER is this one, made by push alone for as long as its calls suffice. */
+    /** A new object whose NUMBER is this one, made by push alone: one of few bits, for a push is a call. */
     static DigitMill holding(BigInteger number) {
         DigitMill mill = new DigitMill();
         int longs = (number.bitLength() + 63) / 64;
