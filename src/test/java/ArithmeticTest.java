@@ -11,6 +11,7 @@ public final class ArithmeticTest {
         addOrdinary();
         addAtTheEdges();
         addRefused();
+        addWhereAZeroTakesTheCarry();
         wordAndBits();
         Checks.finish("ArithmeticTest");
     }
@@ -216,17 +217,22 @@ public final class ArithmeticTest {
                 }, fits ? old.add(BigInteger.valueOf(v)) : old);
             }
         }
-        // Not all ones above the lowest word: the carry finds room.
-        Checks.dueNumber("a zero within ones", () -> {
-            DigitMill mill = Checks.typed("1");
-            mill.repeat(1, 1000);
-            mill.type('0');
-            mill.type('1');
-            mill.repeat(1, 65536 - 1003);
-            mill.read(2);
-            Checks.due("add(MAX_VALUE)", mill.add(Integer.MAX_VALUE), true);
-            return mill;
-        }, Checks.TOP.clearBit(65536 - 1002).add(BigInteger.valueOf(Integer.MAX_VALUE)));
+    }
+
+    /** Not all ones above the lowest word: the carry finds room. */
+    private static void addWhereAZeroTakesTheCarry() {
+        int[] places = {32, 33, 63, 64, 65, 95, 96, 1000, 32768, 65503, 65504, 65534};
+        for (int place : places) {
+            Checks.dueNumber("ones but for bit " + place, () -> {
+                DigitMill mill = Checks.typed("1");
+                mill.repeat(1, 65534 - place);
+                Checks.typeAll(mill, "01");
+                mill.repeat(1, place - 1);
+                Checks.due("read(2)", mill.read(2), -1);
+                Checks.due("add(MAX_VALUE)", mill.add(Integer.MAX_VALUE), true);
+                return mill;
+            }, Checks.TOP.clearBit(place).add(BigInteger.valueOf(Integer.MAX_VALUE)));
+        }
     }
 
     private static void wordAndBits() {
