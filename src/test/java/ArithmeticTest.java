@@ -253,7 +253,7 @@ public final class ArithmeticTest {
         Checks.due("word(1) of 9", mill.word(1), 0);
         Checks.due("word(2047) of 9", mill.word(2047), 0);
         DigitMill powers = new DigitMill();
-        for (int e = 0; e < 160; e++) {
+        for (int e = 0; e < 120; e++) {
             powers.power(2, e);
             Checks.due("bits() of 2^" + e, powers.bits(), e + 1);
             powers.add(-1);
