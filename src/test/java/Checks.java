@@ -4,10 +4,17 @@ import java.util.function.Supplier;
 /** What the tests share. A test's main ends with finish(), which exits with 1 if an answer was wrong. */
 final class Checks {
     /** An object answers 512 calls: longer looks are shared out among objects made alike. */
-    private static final int LOOKS = 480;
+    private static final int LOOKS = 400;
     private static final int MOST_PRINTED = 50;
 
     static final BigInteger TOP = BigInteger.ONE.shiftLeft(65536).subtract(BigInteger.ONE);
+
+    static final String DIGITS = "0123456789abcdefghijklmnopqrstuvwxyz";
+    /** Next to the radixes on both sides, far from them, and alike to one in the lowest 8, 16 or 31 bits. */
+    static final int[] NO_RADIXES = {1, 0, -1, -2, -10, -36, 37, 38, 64, 100, 256 + 10, 65536 + 10, Integer.MIN_VALUE + 10,
+        Integer.MIN_VALUE, Integer.MAX_VALUE};
+    static final int[] NO_WIDTHS = {0, 1, 8, 16, 31, 33, 48, 63, 65, 96, 128, -1, -32, -64, 256 + 32, 65536 + 64,
+        Integer.MIN_VALUE + 32, Integer.MIN_VALUE, Integer.MAX_VALUE};
 
     private static int right = 0;
     private static int wrong = 0;
@@ -58,9 +65,8 @@ final class Checks {
         return typeAll(new DigitMill(), text);
     }
 
-    /** A new object whose NUMBER is this one, made by push alone: one of few bits, for a push is a call. */
-    static DigitMill holding(BigInteger number) {
-        DigitMill mill = new DigitMill();
+    /** A NUMBER that is 0 becomes this one, by push alone: one of few bits, for a push is a call. */
+    static DigitMill pushAll(DigitMill mill, BigInteger number) {
         int longs = (number.bitLength() + 63) / 64;
         for (int k = longs - 1; k >= 0; k--) {
             due("push", mill.push(number.shiftRight(64 * k).longValue()), true);
@@ -74,6 +80,20 @@ final class Checks {
         due("repeat(1, 65535)", mill.repeat(1, 65535), true);
         due("read(2)", mill.read(2), -1);
         return mill;
+    }
+
+    /** The TEXT OUT as far as one object can look at it: all of a short one, of a long one places all over it. */
+    static void dueTextHereAndThere(String what, DigitMill mill, String want) {
+        int length = want.length();
+        int looks = Math.min(length, LOOKS);
+        for (int look = 0; look < looks; look++) {
+            int k = looks == length ? look : (int) ((long) look * (length - 1) / (looks - 1));
+            due(what + ": characterAt(" + k + ")", mill.characterAt(k), want.charAt(k));
+        }
+        int[] none = {-1, length, length + 1, Integer.MIN_VALUE, Integer.MAX_VALUE};
+        for (int k : none) {
+            due(what + ": characterAt(" + k + ")", mill.characterAt(k), -1);
+        }
     }
 
     /** The whole TEXT OUT, looked at with objects made alike. */

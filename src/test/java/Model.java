@@ -2,8 +2,6 @@ import java.math.BigInteger;
 
 /** The document told over again with the Java library, as plainly as can be, to compare with. */
 final class Model {
-    private static final String DIGITS = "0123456789abcdefghijklmnopqrstuvwxyz";
-
     BigInteger number = BigInteger.ZERO;
     String in = "";
     String out = "";
@@ -59,9 +57,10 @@ final class Model {
         return -1;
     }
 
-    private static int firstOther(String text, int radix) {
+    /** -1 when all are digits. */
+    static int firstOther(String text, int radix) {
         for (int i = 0; i < text.length(); i++) {
-            int digit = DIGITS.indexOf(Character.toLowerCase(text.charAt(i)));
+            int digit = Checks.DIGITS.indexOf(Character.toLowerCase(text.charAt(i)));
             if (digit < 0 || digit >= radix) {
                 return i;
             }
