@@ -87,20 +87,24 @@ final class Home {
         }, SMALL.state.withNumber(BigInteger.ONE.shiftLeft(e)));
     }
 
-    /** New, but for the TEXT IN: what is typed, and n times more its last m characters. */
+    /** Small, but for the TEXT IN: what is typed, and n times more its last m characters. */
     static Home typed(String text, int m, int n) {
-        return new Home("TEXT IN " + text + " and " + n + " times its last " + m, () -> {
-            DigitMill mill = Checks.typed(text);
+        return SMALL.typing(text, m, n);
+    }
+
+    /** The TEXT IN is this text; all else is as here. */
+    Home typing(String text) {
+        return typing(text, 0, 0);
+    }
+
+    private Home typing(String text, int m, int n) {
+        return new Home(name + ", TEXT IN " + text + " and " + n + " times its last " + m, () -> {
+            DigitMill mill = Checks.typeAll(withoutTextIn(), text);
             if (n > 0) {
                 Checks.due("repeat(" + m + ", " + n + ")", mill.repeat(m, n), true);
             }
             return mill;
-        }, State.NEW.withIn(text + text.substring(text.length() - m).repeat(n)));
-    }
-
-    /** The TEXT IN is this text, typed when there is none; all else is as here. */
-    Home typing(String text) {
-        return new Home(name + ", TEXT IN " + text, () -> Checks.typeAll(withoutTextIn(), text), state.withIn(text));
+        }, state.withIn(text + text.substring(text.length() - m).repeat(n)));
     }
 
     /** By a parse that says no number, or, where there is no room for ~, one that is too wide: the VALUE stays. */

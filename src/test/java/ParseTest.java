@@ -306,29 +306,12 @@ public final class ParseTest {
 
     /** '3 when width is neither 32 nor 64 .. (refused)', whatever the TEXT IN is */
     private static void widthNeither32Nor64() {
-        for (int width : Checks.NO_WIDTHS) {
-            refuses(Home.FRESH, width, 10);
-            refuses(Home.SMALL, width, 10);
-            refuses(Home.MIDDLE, width, 2);
-            refuses(Home.MIDDLE, width, 36);
-            refuses(Home.SMALL.typing("x"), width, 10);
-        }
-        refuses(Home.FULL, 33, 2);
-        refuses(Home.FULL, 63, 2);
+        WidthAndRadix.eachWrongWidth(ParseTest::refuses);
     }
 
     /** '3 when .. the radix is not 2 .. 36 (refused)', whatever the TEXT IN is */
     private static void radixNot2To36() {
-        for (int radix : Checks.NO_RADIXES) {
-            refuses(Home.FRESH, 32, radix);
-            refuses(Home.FRESH, 64, radix);
-            refuses(Home.SMALL, 32, radix);
-            refuses(Home.MIDDLE, 64, radix);
-            refuses(Home.SMALL, 33, radix);
-            refuses(Home.SMALL.typing("x"), 64, radix);
-        }
-        refuses(Home.FULL, 32, 1);
-        refuses(Home.FULL, 64, 37);
+        WidthAndRadix.eachWrongRadix(ParseTest::refuses);
         for (int width : WIDTHS) {
             parses("101", width, 2, false, 5);
             parses("12", width, 3, false, 5);

@@ -171,13 +171,13 @@ public final class ReadTest {
     /** A TEXT IN of 65,536 characters, the last ones of them this digit. */
     private static Home afterZeros(char digit, int count) {
         String in = "0".repeat(65536 - count) + String.valueOf(digit).repeat(count);
+        Home zeros = Home.typed("0", 1, 65535 - count);
         return new Home(count + " times " + digit + " after zeros", () -> {
-            DigitMill mill = Checks.typed("0");
-            mill.repeat(1, 65535 - count);
+            DigitMill mill = zeros.made.get();
             mill.type(digit);
             mill.repeat(1, count - 1);
             return mill;
-        }, State.NEW.withIn(in));
+        }, zeros.state.withIn(in));
     }
 
     private static void becomesTheGreatest(Home home, int radix) {
@@ -196,7 +196,7 @@ public final class ReadTest {
             BigInteger front = Checks.TOP.divide(fold);
             int r = radix;
             Home below = Home.typed(front.toString(radix) + "0", 1, zeros - 1);
-            below.becomes(call(r), mill -> mill.read(r), -1, State.NEW.withNumber(front.multiply(fold)));
+            below.becomes(call(r), mill -> mill.read(r), -1, below.state.withIn("").withNumber(front.multiply(fold)));
             isTooGreat(Home.typed(front.add(BigInteger.ONE).toString(radix) + "0", 1, zeros - 1), radix);
         }
     }
@@ -208,11 +208,14 @@ public final class ReadTest {
             int fits = Checks.TOP.add(BigInteger.ONE).toString(radix).length() - 1;
             int r = radix;
             BigInteger greatest = BigInteger.valueOf(radix).pow(fits).subtract(BigInteger.ONE);
-            Home.typed(highest, 1, fits - 1).becomes(call(r), mill -> mill.read(r), -1, State.NEW.withNumber(greatest));
+            Home most = Home.typed(highest, 1, fits - 1);
+            most.becomes(call(r), mill -> mill.read(r), -1, most.state.withIn("").withNumber(greatest));
             isTooGreat(Home.typed(highest, 1, fits), radix);
             isTooGreat(Home.typed(highest, 1, 65535), radix);
             isTooGreat(Home.typed("10", 1, 65534), radix);
         }
+        isTooGreat(Home.FULL, 3);
+        isTooGreat(Home.FULL, 36);
     }
 
     /** '-2 when all are digits': when one is not, its place is answered */

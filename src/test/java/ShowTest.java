@@ -136,27 +136,12 @@ public final class ShowTest {
 
     /** '-1, refused, when width is neither 32 nor 64' */
     private static void widthNeither32Nor64() {
-        for (int width : Checks.NO_WIDTHS) {
-            refuses(Home.FRESH, width, 10);
-            refuses(Home.SMALL, width, 10);
-            refuses(Home.MIDDLE, width, 2);
-            refuses(Home.MIDDLE, width, 36);
-        }
-        refuses(Home.FULL, 31, 10);
-        refuses(Home.FULL, 65, 10);
+        WidthAndRadix.eachWrongWidth(ShowTest::refuses);
     }
 
     /** 'or the radix is not 2 .. 36' */
     private static void radixNot2To36() {
-        for (int radix : Checks.NO_RADIXES) {
-            refuses(Home.FRESH, 32, radix);
-            refuses(Home.FRESH, 64, radix);
-            refuses(Home.SMALL, 32, radix);
-            refuses(Home.MIDDLE, 64, radix);
-            refuses(Home.SMALL, 33, radix);
-        }
-        refuses(Home.FULL, 32, 1);
-        refuses(Home.FULL, 64, 37);
+        WidthAndRadix.eachWrongRadix(ShowTest::refuses);
         int[] lowestAndHighest = {2, 3, 35, 36};
         for (int radix : lowestAndHighest) {
             showsAll(Home.SMALL, -1234567, radix);

@@ -8,7 +8,6 @@ public final class TermsTest {
         theLastOf512Calls();
         theNumberFromZeroToTheGreatest();
         theTextOutIsWhatWasWrittenLatest();
-        refusedInEveryState();
         Checks.finish("TermsTest");
     }
 
@@ -56,6 +55,11 @@ public final class TermsTest {
         Checks.due("512th: push(1)", after511Adds().push(1), true);
         Checks.due("512th: power(2, 65535)", after511Adds().power(2, 65535), true);
         Checks.due("512th: show", after511Adds().show(-1, 64, 2, false), 64);
+        Checks.due("512th: type 5", after511Adds().type('5'), true);
+        Checks.due("512th: repeat(1, 0)", after511Adds().repeat(1, 0), false);
+        Checks.due("512th: parse(32, 10, true)", after511Adds().parse(32, 10, true), 1);
+        Checks.due("512th: value()", after511Adds().value(), 0);
+        Checks.due("512th: characterAt(0)", after511Adds().characterAt(0), -1);
         DigitMill pushed = new DigitMill();
         for (int k = 0; k < 511; k++) {
             Checks.due("push(-1)", pushed.push(-1), true);
@@ -83,12 +87,13 @@ public final class TermsTest {
 
     /** 'THE NUMBER is from 0 to 2^65536 - 1': each call that makes a NUMBER can make both ends, but for power and push */
     private static void theNumberFromZeroToTheGreatest() {
-        Home full = Home.typed("1", 1, 65535).becomes("read(2)", mill -> mill.read(2), -1, State.NEW.withNumber(Checks.TOP));
-        Home less = full.becomes("add(-1)", mill -> mill.add(-1), State.NEW.withNumber(Checks.TOP.subtract(BigInteger.ONE)));
-        Home again = less.becomes("add(1)", mill -> mill.add(1), State.NEW.withNumber(Checks.TOP));
+        State zero = Home.SMALL.state.withIn("").withNumber(0);
+        Home full = Home.typed("1", 1, 65535).becomes("read(2)", mill -> mill.read(2), -1, zero.withNumber(Checks.TOP));
+        Home less = full.becomes("add(-1)", mill -> mill.add(-1), zero.withNumber(Checks.TOP.subtract(BigInteger.ONE)));
+        Home again = less.becomes("add(1)", mill -> mill.add(1), zero.withNumber(Checks.TOP));
         again.refuses("add(1)", mill -> mill.add(1));
         again.refuses("push(0)", mill -> mill.push(0));
-        again.becomes("power(0, 1)", mill -> mill.power(0, 1), State.NEW)
+        again.becomes("power(0, 1)", mill -> mill.power(0, 1), zero)
             .refuses("add(-1)", mill -> mill.add(-1));
         Home one = Home.FRESH.becomes("add(1)", mill -> mill.add(1), State.NEW.withNumber(1));
         one.becomes("add(-1)", mill -> mill.add(-1), State.NEW);
@@ -103,36 +108,5 @@ public final class TermsTest {
             .becomes("show(1, 16, 10, true)", mill -> mill.show(1, 16, 10, true), -1, Home.SMALL.state.withOut("-5"))
             .becomes("add(1)", mill -> mill.add(1), Home.SMALL.state.withOut("-5").withNumber(43))
             .becomes("write(10)", mill -> mill.write(10), 2, Home.SMALL.state.withOut("43").withNumber(43));
-    }
-
-    /** 'A call that is refused changes nothing': each call that the document says is refused, in each state that has it */
-    private static void refusedInEveryState() {
-        for (Home home : Home.ALL) {
-            home.refuses("type of 127", mill -> mill.type(0x317f31L));
-            home.refuses("repeat(0, 1)", mill -> mill.repeat(0, 1));
-            home.refuses("repeat(65537, 0)", mill -> mill.repeat(65537, 0));
-            home.refuses("repeat(1, -1)", mill -> mill.repeat(1, -1));
-            home.refuses("repeat(1, 65536)", mill -> mill.repeat(1, 65536));
-            home.refuses("read(1)", mill -> mill.read(1), -3);
-            home.refuses("read(37)", mill -> mill.read(37), -3);
-            home.refuses("write(1)", mill -> mill.write(1), -1);
-            home.refuses("write(37)", mill -> mill.write(37), -1);
-            home.refuses("power(-1, 1)", mill -> mill.power(-1, 1));
-            home.refuses("power(1, -1)", mill -> mill.power(1, -1));
-            home.refuses("power(2, 65536)", mill -> mill.power(2, 65536));
-            home.refuses("power(10, 30000)", mill -> mill.power(10, 30000));
-            home.refuses("show(7, 33, 10, true)", mill -> mill.show(7, 33, 10, true), -1);
-            home.refuses("show(7, 32, 37, false)", mill -> mill.show(7, 32, 37, false), -1);
-            home.refuses("parse(63, 10, true)", mill -> mill.parse(63, 10, true), 3);
-            home.refuses("parse(64, 1, false)", mill -> mill.parse(64, 1, false), 3);
-        }
-        Home.FRESH.refuses("add(-1)", mill -> mill.add(-1));
-        Home.SMALL.refuses("add(-43)", mill -> mill.add(-43));
-        Home.FULL.refuses("add(1)", mill -> mill.add(1));
-        Home.FULL.refuses("add(MAX_VALUE)", mill -> mill.add(Integer.MAX_VALUE));
-        Home.FULL.refuses("push(0)", mill -> mill.push(0));
-        Home.FULL.refuses("push(-1)", mill -> mill.push(-1));
-        Home.FULL.refuses("type 1", mill -> mill.type('1'));
-        Home.FULL.refuses("repeat(1, 1)", mill -> mill.repeat(1, 1));
     }
 }

@@ -77,7 +77,7 @@ public final class TypeTest {
             for (int count = 0; count <= 8; count++) {
                 String more = "01001010".substring(0, count);
                 if (has + count <= 65536) {
-                    home.becomes("type " + more, mill -> mill.type(Checks.eight(more)), State.NEW.withIn(home.state.in() + more));
+                    home.becomes("type " + more, mill -> mill.type(Checks.eight(more)), home.state.withIn(home.state.in() + more));
                 } else {
                     home.refuses("type " + more, mill -> mill.type(Checks.eight(more)));
                 }
@@ -89,7 +89,7 @@ public final class TypeTest {
 
     private static void zerosNeedNoRoom() {
         Home oneHasRoom = Home.typed("1", 1, 65534);
-        State full = State.NEW.withIn("1".repeat(65536));
+        State full = oneHasRoom.state.withIn("1".repeat(65536));
         for (int place = 0; place < 8; place++) {
             long eight = (long) '1' << 8 * place;
             oneHasRoom.becomes("type(" + eight + ")", mill -> mill.type(eight), full);
